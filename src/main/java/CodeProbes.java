@@ -140,7 +140,7 @@ public final class CodeProbes {
             return NO;
         }
         history.keep(now);
-        int held = now.giveUpReturns(who);
+        int held = now.letGoReturns(who);
         who.goTo(cell, acc);
         return held;
     }
@@ -869,8 +869,8 @@ public final class CodeProbes {
             return many;
         }
 
-        /** No PROBE is HIT by this: nothing returned. Answers how many were HELD. */
-        int giveUpReturns(Processor who) {
+        /** No PROBE is HIT by this: nothing returns. Answers how many were HELD. */
+        int letGoReturns(Processor who) {
             int held = 0;
             for (int k = 0; k < who.depth; k++) {
                 Probe it = probeOrNull(who.holderAt(k));
@@ -880,7 +880,6 @@ public final class CodeProbes {
                     it.goIfNobodyIsInside();
                 }
             }
-            who.depth = 0;
             return held;
         }
 

@@ -195,6 +195,9 @@ public final class PromisesTest {
         faultOf("c99", 0);
         // One that is not so comes ahead of one that goes astray, wherever it stands.
         faultOf("j01ix", 4);
+        for (String one : new String[] {"j0", "z0x", "cx0", "j0 ", "l8", "s", "x"}) {
+            faultOf("j99" + one, 3);
+        }
         faultOf("j00j01j05", 3);
     }
 
@@ -392,6 +395,8 @@ public final class PromisesTest {
         due("not sound", x.filter(0), NO);
         due("BAD ahead of NO", x.filter(1), BAD);
         due("nothing changed", x.count(5), 1);
+        say(x, "+");
+        due("not sound", x.filter(0), NO);
         say(x, "m7a<");
         due("sound", x.filter(0), 4);
         due("the text stays", x.count(6), 4);
@@ -574,6 +579,18 @@ public final class PromisesTest {
         due("h", x.step(1, 2), 2);
         shows(x, 1, 1, 1, 0, 1, 2);
         due("it came by", x.look(0, 3), 1);
+
+        // All six RETURNS are given back, the top one first.
+        x = laid("c04hc08rc12rc16rc20rc24rr");
+        due("six calls", x.step(0, 6), 6);
+        shows(x, 0, 24, 0, 6, 0, 6);
+        for (int k = 5; k >= 0; k--) {
+            int back = x.returns(0, k, 1);
+            due("return", back, k == 0 ? 3 : 3 + 4 * k);
+            due("r", x.step(0, 1), 1);
+            shows(x, 0, back, 0, k, 0, 12 - k);
+        }
+        due("h", x.step(0, 60), 1);
 
         // The last c puts the CELL behind the code: r goes there, and there it HALTS.
         x = laid("j04rc03");
@@ -759,6 +776,8 @@ public final class PromisesTest {
         shows(x, 0, 4, 0, 1, 0, 1);
         due("return", x.returns(0, 0, 1), 3);
 
+        undoWhatWasWrittenOver();
+
         // What is in the RING comes back, too, and so does what was HELD and missed.
         x = laid("ic05hir");
         due("probe", x.probe(0, 0), 0);
@@ -773,6 +792,115 @@ public final class PromisesTest {
         shows(x, 0, 6, 2, 1, 0, 3);
         due("step", x.step(0, 1), 1);
         rings(x, 0, 1, 1, 2, 4);
+    }
+
+    private static void undoWhatWasWrittenOver() {
+        // Rounds of the same calls, each with its own numbers in the same places.
+        CodeProbes x = laid("c12c17c12j00ic17ric22ridr");
+        due("probe", x.probe(0, 12), 0);
+        due("probe", x.probe(1, 17), 1);
+        due("probe", x.probe(0, 22), 2);
+        say(x, "a2=!");
+        due("filter", x.filter(2), 4);
+        int[] looked = snapshot(x);
+        due("step", x.step(0, 8), 8);
+        int[] early = snapshot(x);
+        due("return", early[8 + 3 + 1], 99);
+        due("step", x.step(0, 60), 60);
+        int[] late = snapshot(x);
+        due("start", x.start(0, 12, 5), 1);
+        due("step", x.step(0, 60), 9);
+        due("undo", x.undo(), 3);
+        due("undo", x.undo(), 2);
+        same("behind the second STEPS", late, snapshot(x));
+        due("undo", x.undo(), 1);
+        same("behind the first STEPS", early, snapshot(x));
+        due("undo", x.undo(), 0);
+        same("ahead of the STEPS", looked, snapshot(x));
+
+        // A number that is used again for another PROBE.
+        x = laid("ic05hir");
+        due("probe", x.probe(1, 0), 0);
+        due("step", x.step(0, 1), 1);
+        due("off", x.turn(0, 0), 0);
+        looked = snapshot(x);
+        due("taken away", x.remove(0), 1);
+        due("probe", x.probe(0, 5), 0);
+        counts(x, 0, 0, 0, 0, 0);
+        say(x, "0");
+        due("filter", x.filter(0), 1);
+        due("step", x.step(0, 60), 4);
+        counts(x, 0, 1, 1, 0, 0);
+        for (int more = 3; more >= 0; more--) {
+            due("undo", x.undo(), more);
+        }
+        same("ahead of it", looked, snapshot(x));
+        due("kind", x.look(0, 1), 1);
+        due("cell", x.look(0, 2), 0);
+        due("missed", x.look(0, 5), 1);
+
+        // Filtered and missed are 0 for the next one of that number.
+        due("taken away", x.remove(0), 1);
+        due("probe", x.probe(0, 1), 0);
+        due("filter", x.filter(0), 1);
+        due("step", x.step(0, 1), 1);
+        counts(x, 0, 1, 1, 0, 0);
+        due("taken away", x.remove(0), 1);
+        due("probe", x.probe(0, 1), 0);
+        counts(x, 0, 0, 0, 0, 0);
+
+        // RETURNS taken off, and others put in their place.
+        x = laid("c06c06idr");
+        due("probe", x.probe(1, 7), 0);
+        due("step", x.step(0, 3), 3);
+        looked = snapshot(x);
+        due("step", x.step(0, 1), 1);
+        due("step", x.step(0, 1), 1);
+        due("return", x.returns(0, 0, 0), 6);
+        due("off", x.turn(0, 0), 0);
+        due("step", x.step(0, 2), 2);
+        for (int more = 3; more >= 0; more--) {
+            due("undo", x.undo(), more);
+        }
+        same("ahead of it", looked, snapshot(x));
+        due("return", x.returns(0, 0, 0), 99);
+        due("return", x.returns(0, 0, 1), 3);
+    }
+
+    /** Every answer of the calls that look and change nothing. */
+    private static int[] snapshot(CodeProbes x) {
+        int[] all = new int[200];
+        int n = 0;
+        for (int k = 0; k < 8; k++) {
+            all[n++] = x.memory(k);
+        }
+        for (int c = 0; c < 2; c++) {
+            for (int k = 0; k < 7; k++) {
+                all[n++] = x.processor(c, k);
+                all[n++] = x.returns(c, k, 0);
+                all[n++] = x.returns(c, k, 1);
+            }
+            for (int k = 0; k < 4; k++) {
+                for (int what = 0; what < 3; what++) {
+                    all[n++] = x.ring(c, k, what);
+                }
+            }
+        }
+        for (int p = 0; p < 6; p++) {
+            for (int what = 0; what < 8; what++) {
+                all[n++] = x.look(p, what);
+            }
+        }
+        for (int what = 0; what < 5; what++) {
+            all[n++] = x.count(what);
+        }
+        return all;
+    }
+
+    private static void same(String when, int[] want, int[] got) {
+        for (int i = 0; i < want.length; i++) {
+            due(when + ", look " + i, got[i], want[i]);
+        }
     }
 
     private static void code() {
@@ -882,6 +1010,14 @@ public final class PromisesTest {
         due("of the other", x.ring(1, 0, 0), NONE);
         due("gone", x.remove(0), 1);
         due("what is recorded stays", x.ring(0, 3, 0), 0);
+        due("step", x.step(0, 3), 3);
+        rings(x, 0, 2, 0, 5, 8);
+        rings(x, 0, 3, 1, 6, 10);
+        due("step", x.step(0, 3), 3);
+        rings(x, 0, 0, 1, 4, 7);
+        rings(x, 0, 1, 0, 5, 8);
+        rings(x, 0, 2, 1, 6, 10);
+        rings(x, 0, 3, 1, 8, 13);
     }
 
     private static void look() {
@@ -967,6 +1103,11 @@ public final class PromisesTest {
         askedIs(x, "a!", 2, 0);
         askedIs(x, "a!!", 2, 1);
         askedIs(x, "!", 2, NO);
+        askedIs(x, "!1", 2, NO);
+        askedIs(x, "+1", 2, NO);
+        askedIs(x, "1+1+", 2, NO);
+        askedIs(x, "11x+", 2, NO);
+        askedIs(x, "12345+++", 2, NO);
         askedIs(x, "1+", 2, NO);
         askedIs(x, "1!+", 2, NO);
         askedIs(x, "+11", 2, NO);
