@@ -254,6 +254,21 @@ public final class PromisesTest {
         isAsNew(x);
         due("all probes can be had", x.probe(0, 0), 0);
         counts(x, 0, 0, 0, 0, 0);
+
+        // LAID while a RETURN is HELD, and while one that holds is DYING.
+        x = laid("c03ir");
+        due("probe", x.probe(1, 3), 0);
+        due("step", x.step(0, 2), 2);
+        due("step", x.step(1, 2), 2);
+        due("held", x.count(4), 2);
+        due("lay", x.lay(), 5);
+        isAsNew(x);
+        due("probe", x.probe(1, 3), 0);
+        counts(x, 0, 0, 0, 0, 0);
+        due("step", x.step(0, 2), 2);
+        due("dying", x.remove(0), 0);
+        due("lay", x.lay(), 5);
+        isAsNew(x);
     }
 
     private static void probe() {
