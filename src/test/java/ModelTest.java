@@ -23,6 +23,9 @@ public final class ModelTest {
     private static final String[] FILTERS = {"a", "m0", "a5<", "a2=!", "m0a-1|", "am1<m0!&", "1234+++", "a1&", "0",
         "12", "+", "m8", "12345++++", "aa*m2=", ""};
 
+    /** What later calls on one object answer is free. */
+    private static final int MOST_CALLS = 512;
+
     private static int calls = 0;
 
     public static void main(String[] args) {
@@ -39,8 +42,11 @@ public final class ModelTest {
         Model model = new Model();
         List<String> done = new ArrayList<>();
         int wild = chance.nextInt(4) == 0 ? 8 : 60;
-        while (done.size() < 512) {
+        while (done.size() < MOST_CALLS) {
             for (int[] call : someCalls(chance, wild)) {
+                if (done.size() == MOST_CALLS) {
+                    break;
+                }
                 int got = onClass(x, call);
                 int want = model.answer(call);
                 done.add(NAMES[call[0]] + Arrays.toString(Arrays.copyOfRange(call, 1, 1 + ARGUMENTS[call[0]])) + " " + got);

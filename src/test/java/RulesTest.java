@@ -136,7 +136,7 @@ public final class RulesTest {
         long made = taken() - before;
         holds(made < 20_000, "12: a new object takes " + made + " bytes");
         before = taken();
-        busy(60);
+        busy(56);
         long ran = taken() - before - made;
         holds(ran < 2_000, "12: calls that keep nothing take " + ran + " bytes");
         x.probe(0, 0);
