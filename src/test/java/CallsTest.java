@@ -210,21 +210,27 @@ public final class CallsTest {
 
     private static void layClears() {
         for (Consumer<Subject> scene : SCENES) {
-            Subject x = Bench.in(scene);
-            Bench.say(x, "c04hic09rdr");
-            Bench.due("lay", x.lay(), 11);
-            isAsNew(x);
+            Subject it = Bench.in(scene);
+            Bench.say(it, "c04hic09rdr");
+            Bench.due("lay", it.lay(), 11);
+            isAsNew(it);
             for (int c = 0; c < 2; c++) {
                 for (int k = 0; k < 6; k++) {
-                    Bench.due("returns", x.returns(c, k, 0), NONE);
+                    Bench.due("returns", it.returns(c, k, 0), NONE);
                 }
             }
         }
+        Subject x = Bench.in(Scenes::six);
+        for (int k = 0; k < 8; k++) {
+            Bench.due("poke", x.poke(k, 999 - k), 0);
+        }
+        Bench.due("lay", x.lay(), 10);
+        isAsNew(x);
         // Nothing is left in what is used again: the next PROBE, RETURNS and RING are new ones.
         for (Consumer<Subject> scene : SCENES) {
-            Bench.alike("behind lay", x -> {
-                scene.accept(x);
-                layAndRun(x);
+            Bench.alike("behind lay", it -> {
+                scene.accept(it);
+                layAndRun(it);
             }, CallsTest::layAndRun);
         }
     }

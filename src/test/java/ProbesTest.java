@@ -548,6 +548,22 @@ public final class ProbesTest {
             Bench.due("no more", x.ring(0, Math.min(hits, 4), 0), NONE);
         }
         Bench.due("none of the other", x.processor(1, 6), 0);
+        // Of several PROBES, each record goes out whole, the oldest first.
+        Subject two = Bench.laid("iij00");
+        Bench.due("probe", two.probe(PLAIN, 1), 0);
+        Bench.due("probe", two.probe(PLAIN, 0), 1);
+        Bench.due("probe", two.probe(PLAIN, 2), 2);
+        Bench.due("step", two.step(0, 4), 4);
+        Bench.rings(two, 0, 0, 1, 0, 1);
+        Bench.rings(two, 0, 1, 0, 1, 2);
+        Bench.rings(two, 0, 2, 2, 2, 3);
+        Bench.rings(two, 0, 3, 1, 2, 4);
+        Bench.due("step", two.step(0, 1), 1);
+        Bench.due("lost", two.processor(0, 6), 1);
+        Bench.rings(two, 0, 0, 0, 1, 2);
+        Bench.rings(two, 0, 1, 2, 2, 3);
+        Bench.rings(two, 0, 2, 1, 2, 4);
+        Bench.rings(two, 0, 3, 0, 3, 5);
         // What is FILTERED puts nothing out.
         Bench.give(x, 0, "0");
         Bench.due("step", x.step(0, 4), 4);
@@ -581,6 +597,10 @@ public final class ProbesTest {
             boolean joins = "+-*<=&|".indexOf(sign) >= 0;
             Subject x = Bench.said("12" + sign);
             Bench.due("12" + sign + " is sound", x.asked(0) == NO ? 0 : 1, joins ? 1 : 0);
+            // What is no letter of a FILTER is not passed over, and nothing stands for it.
+            askedIs("12" + sign + "+", 0, sign == '!' ? 1 : NO);
+            x = Bench.said("12" + sign + "!");
+            Bench.due("12" + sign + "! is sound", x.asked(0) == NO ? 0 : 1, joins ? 1 : 0);
         }
         askedIs("a", 0, 0);
         askedIs("a", 999, 999);
@@ -597,6 +617,10 @@ public final class ProbesTest {
     private static void stackOfFour() {
         askedIs("1234+++", 0, 10);
         askedIs("12345++++", 0, NO);
+        // What comes when 4 are on it is not passed over.
+        askedIs("12345+++", 0, NO);
+        askedIs("1234a+++", 5, NO);
+        askedIs("1234m7+++", 0, NO);
         askedIs("aaaa+++", 300, 200);
         askedIs("aaaaa++++", 0, NO);
         askedIs("m7m7m7m7+++", 0, 168);

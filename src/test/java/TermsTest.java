@@ -230,6 +230,15 @@ public final class TermsTest {
         Bench.due("r", x.step(0, 1), 1);
         Bench.isAt(x, 0, 3, 999, 0, 0);
         Bench.due("taken off", x.returns(0, 0, 1), NONE);
+        // All six, the top one first.
+        x = Bench.laid("c04hc08rc12rc16rc20rc24rr");
+        Bench.due("six calls", x.step(0, 6), 6);
+        Bench.isAt(x, 0, 24, 0, 6, 0);
+        int[] backs = {23, 19, 15, 11, 7, 3};
+        for (int i = 0; i < 6; i++) {
+            Bench.due("r", x.step(0, 1), 1);
+            Bench.isAt(x, 0, backs[i], 0, 5 - i, 0);
+        }
     }
 
     private static void halt() {
