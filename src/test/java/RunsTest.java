@@ -26,6 +26,7 @@ public final class RunsTest {
         Bench.sentence("Of several the first in this order, whatever the order at a call; nothing changes then.",
             RunsTest::firstInThisOrder);
         Bench.sentence("THE TEXT stays when it is LAID or given as a FILTER.", RunsTest::textStays);
+        Bench.sentence("An object is used for at most 512 calls after it has been made", RunsTest::longestRun);
         Bench.end();
     }
 
@@ -534,5 +535,17 @@ public final class RunsTest {
         Bench.due("wipe", x.wipe(), 1);
         Bench.due("code", x.code(0, 1), 'l');
         Bench.due("the filter stays", x.look(0, 7), 3);
+    }
+
+    private static void longestRun() {
+        Subject x = Bench.laid("j00");
+        Bench.due("probe", x.probe(PLAIN, 0), 0);
+        // 7 calls up to here, and 3 that look at what came of it.
+        for (int i = 0; i < 502; i++) {
+            Bench.due("step", x.step(0, 60), 60);
+        }
+        Bench.due("steps", x.processor(0, 4), 502 * 60);
+        Bench.due("lost", x.processor(0, 6), 502 * 60 - 4);
+        Bench.due("the 512th", x.ring(0, 3, 2), 502 * 60);
     }
 }
