@@ -418,6 +418,15 @@ public final class CallsTest {
         Bench.due("write", x.write('0'), 1);
         Bench.due("the shortest", x.filter(0), 1);
         Bench.due("letters", x.look(0, 7), 1);
+        // None for one that has none, and the same one again: changes like any other.
+        x = Bench.laid("i");
+        Bench.due("probe", x.probe(Bench.PLAIN, 0), 0);
+        x.wipe();
+        Bench.due("none for none", x.filter(0), 0);
+        Bench.due("changes", x.count(5), 2);
+        Bench.give(x, 0, "a");
+        Bench.due("the same again", x.filter(0), 1);
+        Bench.due("changes", x.count(5), 4);
         // On one that is OFF, and on one that is DYING; the others keep theirs.
         x = Bench.in(Scenes::busy);
         Bench.give(x, 3, "12+");
